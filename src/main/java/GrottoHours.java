@@ -27,6 +27,7 @@ public final class GrottoHours {
     private static final int MOST_HOURS_SEEN = 20;
     private static final int MOST_HOURS_OF_DROUGHT = 5;
     private static final int MOST_GIFT = 100;
+    private static final int HOURS_OF_A_GAME = 8;
 
     private static final int WET_UNTOLD = 5;
     private static final int BOUND_UNTOLD = 70;
@@ -708,21 +709,24 @@ public final class GrottoHours {
     }
 
     private int gain(int guild, int choice, int other, int others) {
-        return 5 * quietHours(guild, choice) - 6 * choice - 3 * quietHours(other, others);
+        int quiet = quietBits(guild, choice);
+        int bothQuiet = quiet & quietBits(other, others);
+        return 5 * Integer.bitCount(quiet) - 6 * choice - 3 * Integer.bitCount(bothQuiet);
     }
 
-    private int quietHours(int guild, int choice) {
+    /** Those of the next HOURS in which the GUILD has no SILENCE. */
+    private int quietBits(int guild, int choice) {
         walk.begin(town, book.state, guild);
         if (choice == 1) {
             walk.repent();
         }
-        int quiet = 0;
-        for (int i = 0; i < 8; i++) {
+        int bits = 0;
+        for (int i = 0; i < HOURS_OF_A_GAME; i++) {
             if (!walk.passHour(town, town.wetOf(walk.hour))) {
-                quiet++;
+                bits |= 1 << i;
             }
         }
-        return quiet;
+        return bits;
     }
 
     private int draw(int n) {

@@ -136,6 +136,10 @@ public final class BestTest {
         GrottoHours y = Texts.town("grotto 1 0 0;guild 0 0 0 hires 0;costs (purse<300 or 400<purse)*50;bound 99;");
         Check.same("toGive(0, 6): 300 costs nothing", 300, y.toGive(0, 7));
         Check.same("toGive(0, 5)", 250, y.toGive(0, 5));
+        Check.same("toGive(0, 1) of nothing", 0, Texts.town("grotto 1 0 0;guild 0 0 9 hires 0;costs purse;").toGive(0, 1));
+        Check.same("toGive(0, 1) of all", 999, Texts.town("grotto 1 0 0;guild 0 0 9 hires 0;costs (hour<19)*50+"
+            + "(hour=19)*49+(purse<0);").toGive(0, 20));
+        Check.same("toGive(0, 9) without a price", 0, Texts.town("grotto 1 0 0;guild 0 0 9 hires 0;").toGive(0, 9));
         // Here prayers mind purse: without sin there is no silence to halve it.
         GrottoHours z = Texts.town("grotto 1 0 10;guild 1 70 0 hires 0;prays (purse<40)*99;");
         Check.same("toGive(0, 4)", 28, z.toGive(0, 4));

@@ -45,18 +45,24 @@ public final class ChanceTest {
         Check.same("a drained one prays not", 100, x.drought(0, 2, 1));
     }
 
+    private static void game(GrottoHours x, int guild, int other, int many, int first) {
+        Check.same("game(" + guild + ", " + other + ", 0)", many, () -> x.game(guild, other, 0));
+        Check.same("game(" + guild + ", " + other + ", 1)", first, () -> x.game(guild, other, 1));
+    }
+
     private static void game() {
-        // Guild 0 is silent at once, if it doesn't confess: then it has 43 + 8 at most, 8 quiet hours.
+        // 0 is quiet in all hours, if it confesses, else in none; 1 is quiet but in the last one either way;
+        // 2 can't confess and is always quiet; 3 is as 0; 4 is quiet in four hours, if it confesses, else in none.
         GrottoHours x = Texts.town("guild 1 86 50;guild 9 0 999;guild 0 0 0;guild 0 71 50;guild 9 62 50;");
-        // Guild 1 has 63 behind 7 hours and 72 behind 8: by confessing nothing is gained, as it has no sin yet.
-        Check.same("game(0, 1, 0)", 1, x.game(0, 1, 0));
-        Check.same("game(0, 1, 1)", 10, x.game(0, 1, 1));
-        Check.same("game(1, 0, 1)", 1, x.game(1, 0, 1));
-        Check.same("game(0, 3, 1)", 11, x.game(0, 3, 1));
-        Check.same("game(2, 0, 1)", 1, x.game(2, 0, 1));
-        Check.same("game(1, 2, 1)", 0, x.game(1, 2, 1));
-        // Guild 4: not so 71 behind an hour, a silence in each; so 31 + 9 .. 67 in 4, 76 behind 5: 20 - 6.
-        Check.same("game(4, 2, 1)", 10, x.game(4, 2, 1));
+        // 0 gains 40 - 6 - 21 by it, else 0.
+        game(x, 0, 1, 1, 10);
+        game(x, 1, 0, 1, 1);
+        game(x, 2, 0, 1, 1);
+        game(x, 1, 2, 1, 0);
+        // Each gains 40 - 6 alone, and 40 - 6 - 24 beside the other one: still more than 0.
+        game(x, 0, 3, 1, 11);
+        // 4 gains 20 - 6 - 12.
+        game(x, 4, 2, 1, 10);
         for (int wrong : new int[] {-1, 5, Integer.MAX_VALUE, Integer.MIN_VALUE}) {
             Check.noSuchElement("game(" + wrong + ", 0, 0)", () -> x.game(wrong, 0, 0));
             Check.noSuchElement("game(0, " + wrong + ", 0)", () -> x.game(0, wrong, 0));
@@ -73,15 +79,19 @@ public final class ChanceTest {
 
     private static void gameOfThePoor() {
         GrottoHours x = Texts.town("guild 0 99 49;guild 0 99 49;guild 9 99 100;");
-        Check.same("neither can: game(0, 1, 0)", 1, x.game(0, 1, 0));
-        Check.same("neither can: game(0, 1, 1)", 0, x.game(0, 1, 1));
-        // Guild 2: 49 + 9 and + 18 are quiet, 76 isn't: 10 - 6.
-        Check.same("game(0, 2, 1)", 1, x.game(0, 2, 1));
-        // One quiet hour more is worth 5, less than the 6 of a confession.
-        GrottoHours y = Texts.town("guild 9 99 99;guild 0 0 0;bound 58;");
-        Check.same("one quiet hour", 0, y.game(0, 1, 1));
-        GrottoHours z = Texts.town("guild 9 99 99;guild 0 0 0;bound 67;");
-        Check.same("two quiet hours", 10, z.game(0, 1, 1));
+        game(x, 0, 1, 1, 0);
+        // 2 has 58 and 67 in two quiet hours, and the other one is never quiet: 10 - 6.
+        game(x, 0, 2, 1, 1);
+        game(x, 2, 0, 1, 10);
+        // One quiet hour is worth 5, less than the 6 of a confession; two are worth 10.
+        game(Texts.town("guild 9 99 99;guild 0 99 0;bound 58;"), 0, 1, 1, 0);
+        game(Texts.town("guild 9 99 99;guild 0 99 0;bound 67;"), 0, 1, 1, 10);
+        // Beside one that is always quiet each is worth 2: three of them are worth what the confession costs.
+        game(Texts.town("guild 9 99 99;guild 0 0 0;bound 67;"), 0, 1, 1, 0);
+        game(Texts.town("guild 9 99 99;guild 0 0 0;bound 76;"), 0, 1, 2, 0);
+        game(Texts.town("guild 9 99 99;guild 0 0 0;bound 85;"), 0, 1, 1, 10);
+        // Two like ones with two quiet hours each: alone it gains 4, beside the other one it loses 2.
+        game(Texts.town("guild 9 99 99;guild 9 99 99;bound 67;"), 0, 1, 2, 1);
     }
 
     private static void years() {
@@ -94,8 +104,8 @@ public final class ChanceTest {
         Check.same("years(1, 1, 0)", 1, x.years(1, 1, 0));
         Check.same("years(1, 1, 1)", 30 + 263, x.years(1, 1, 1));
         Check.same("years(1, 1, 2)", 1, x.years(1, 1, 2));
-        for (int event = 0; event < 7; event++) {
-            oneYear(x, event);
+        for (int seed = -150; seed < 150; seed++) {
+            oneYear(x, seed);
         }
         for (int wrong : new int[] {-1, 61, Integer.MAX_VALUE, Integer.MIN_VALUE}) {
             Check.illegalArgument("years(1, " + wrong + ", 0)", () -> x.years(1, wrong, 0));
@@ -113,12 +123,9 @@ public final class ChanceTest {
         return (seed >>> 16) % 32768 % n;
     }
 
-    /** An hour by a seed whose first draw is this one: purses tell a gift, and who has hired what. */
-    private static void oneYear(GrottoHours x, int event) {
-        int seed = 0;
-        while (draw(next(seed), 7) != event) {
-            seed++;
-        }
+    /** An hour by a seed: purses tell a gift, and who has hired what. */
+    private static void oneYear(GrottoHours x, int seed) {
+        int event = draw(next(seed), 7);
         int second = next(next(seed));
         int third = next(second);
         int purse = 20 + 12;
@@ -148,6 +155,14 @@ public final class ChanceTest {
         for (int seed = 0; seed < 30; seed++) {
             Check.same("no purses without guilds", 0, y.years(seed, 60, 1));
             Check.same("nothing is hired", 0, y.years(seed, 60, 2));
+        }
+        // What is drained, or dry, prays not: a silence.
+        GrottoHours w = Texts.town("grotto 1 0 0;guild 0 73 0 hires 0;");
+        for (int seed = 0; seed < 200; seed++) {
+            int event = draw(next(seed), 7);
+            int before = event == 0 ? next(next(next(seed))) : event < 3 ? next(next(seed)) : next(seed);
+            boolean isSilent = event == 1 || draw(next(before), 4) == 0;
+            Check.same("drained or dry", Check.bit(isSilent), w.years(seed, 1, 0));
         }
         // The wet that is drawn is what the rule sees, 0 to 3, and a dry one lets nothing drip.
         GrottoHours z = Texts.town("wet 9;grotto 1 0 0;guild 0 50 900 hires 0;costs wet;");

@@ -66,6 +66,14 @@ public final class FactsTest {
         GrottoHours late = Texts.town("wet 0 0 0 0 0 0 0 1;grotto 11 0 0;");
         // Hours 7, 15, 23, 31, 39, 47, 55 are wet: 55 is the first of them that 11 divides, the 56th hour.
         Check.same("late next", 56, late.grotto(0, 6));
+        // Hours 3, 10, 17 .. are wet, and 4, 15, 26 .. come round: 59 is the first that does both, the 60th hour.
+        GrottoHours latest = Texts.town("wet 0 0 0 1 0 0 0;grotto 11 7 0;");
+        Check.same("the latest next", 60, latest.grotto(0, 6));
+        latest.hours(20);
+        Check.same("the same from hour 20", 40, latest.grotto(0, 6));
+        latest.hours(20);
+        latest.hours(20);
+        Check.same("none from hour 60", -1, latest.grotto(0, 6));
         Check.isTrue("drain", late.drain(0, true) && late.drain(0, false));
         Check.same("late next again", 56, late.grotto(0, 6));
     }

@@ -43,6 +43,16 @@ public final class ImageTest {
         Check.same("silences", silences, x.guild(1, 3));
         Check.same("guild(1, 4)", -1, x.guild(1, 4));
         Check.same("greedy by what was seen", 0, x.greedy(2));
+        x.forget();
+        x.see(1, 1, x.then(1, 1, 0));
+        x.see(0, 2, x.then(0, 2, 0));
+        x.image();
+        x.forget();
+        x.see(0, 1, 1);
+        x.see(0, 3, 1);
+        x.restore();
+        Check.same("seen again", 2, x.count(10));
+        Check.same("it is so without again", 1, x.greedy(2));
     }
 
     private static void restoresActs() {

@@ -60,6 +60,9 @@ public final class ModelTest {
     }
 
     private int from(int low, int high) {
+        if (random.nextInt(150) == 0) {
+            return random.nextInt(3) == 0 ? random.nextInt() : random.nextBoolean() ? Integer.MIN_VALUE : Integer.MAX_VALUE;
+        }
         return low + random.nextInt(high - low + 1);
     }
 
@@ -198,7 +201,7 @@ public final class ModelTest {
         int hours = from(-1, 21);
         // Mostly what a changed GREED would show, so that some guess suits.
         int sin = from(-1, 101);
-        if (guild >= 0 && guild < m.all.w.guilds() && hours >= 0 && random.nextInt(5) != 0) {
+        if (guild >= 0 && guild < m.all.w.guilds() && hours >= 0 && hours <= 20 && random.nextInt(5) != 0) {
             Model.World w = m.all.w.copy();
             int greedy = (m.all.w.hour / 5 + run) % m.all.w.guilds();
             w.greed[greedy] = run % 10;

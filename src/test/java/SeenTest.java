@@ -111,6 +111,12 @@ public final class SeenTest {
         // Guild 1 by 9 is above 50 behind 5 hours first (53), by others later, and by 0 never.
         Check.same("look(0) later", 5, y.look(0));
         Check.same("look(1) later", 2, y.look(1));
+        // Guild 0 alone may be another; by greed 1 it has less than 100 in hour 19, and all is prayed away.
+        GrottoHours z = Texts.town("grotto 1 0 0;guild 0 90 0 hires 0;guild 1 50 0;bound 99;"
+            + "prays (hour=19)*(purse<100)*99;");
+        z.see(1, 1, 51);
+        Check.same("look(0) at last", 20, z.look(0));
+        Check.same("look(1) at last", 2, z.look(1));
     }
 
     private static void forget() {

@@ -97,6 +97,18 @@ public final class TapeAndPortTest {
         Check.same("anew: no rule prays", 6, x.then(0, 1, 0));
         Check.same("anew: no rule costs", 1, x.guild(0, 5));
         Check.same("anew: undo()", -1, x.undo());
+        // Whatever an earlier text told, or one with a fault, is told no more.
+        for (int i = 0; i < 3; i++) {
+            Texts.port(x, "grotto 1 0 1;guild 1 50 100 hires 0;wet 1 0;bound 60;prays 3;costs 4;");
+            x.hours(20);
+            Texts.port(x, "grotto 1 0 1;guild 1 10 100 hires 0;wet 2;bound 8;prays 2;costs 3;#");
+            Check.same("once more", 0, Texts.port(x, "grotto 1 0 1;guild 1 10 100 hires 0;"));
+            Check.same("once more: wet", 5, x.count(3));
+            Check.same("once more: bound", 70, x.count(4));
+            Check.same("once more: silences", 0, x.guild(0, 3));
+            Check.same("once more: no rule prays", 6, x.then(0, 1, 0));
+            Check.same("once more: no rule costs", 1, x.guild(0, 5));
+        }
     }
 
     private static void faultLeavesAll() {
@@ -248,6 +260,11 @@ public final class TapeAndPortTest {
         Texts.fault("prays not or 1;", 3, 10);
         Texts.fault("prays guild;", 3, 6);
         Texts.fault("prays sins;", 3, 6);
+        Texts.fault("prays z;", 3, 6);
+        Texts.fault("prays 1+a;", 3, 8);
+        Texts.fault("prays {;", 1, 6);
+        Texts.fault("prays `;", 1, 6);
+        Texts.fault("prays :;", 1, 6);
         Texts.fault("guild 1 1 1 hires 0;", 3, 18);
         Texts.fault("grotto 1 1 1;guild 1 1 1 hires 1;grotto 1 1 1;", 3, 31);
         Texts.fault("grotto 1 1 1;guild 1 1 1 hires 9999;", 3, 31);

@@ -1049,14 +1049,10 @@ final class Model {
         int[] gains = {-6 * x, -6 * y};
         for (int i = 0; i < 8; i++) {
             w.hourBy(w.wetNow());
-            if (!w.silentNow[a]) {
-                gains[0] += 5;
-                gains[1] -= 3;
-            }
-            if (!w.silentNow[b]) {
-                gains[1] += 5;
-                gains[0] -= 3;
-            }
+            boolean isQuietA = !w.silentNow[a];
+            boolean isQuietB = !w.silentNow[b];
+            gains[0] += isQuietA && isQuietB ? 5 - 3 : isQuietA ? 5 : 0;
+            gains[1] += isQuietA && isQuietB ? 5 - 3 : isQuietB ? 5 : 0;
         }
         return gains;
     }
