@@ -708,25 +708,24 @@ public final class GrottoHours {
             || gain(guild, otherChoice, other, others) <= gain(guild, choice, other, others);
     }
 
+    /** The 3 are lost for the other one's quiet HOURS, whether or not the GUILD itself is quiet in them. */
     private int gain(int guild, int choice, int other, int others) {
-        int quiet = quietBits(guild, choice);
-        int bothQuiet = quiet & quietBits(other, others);
-        return 5 * Integer.bitCount(quiet) - 6 * choice - 3 * Integer.bitCount(bothQuiet);
+        return 5 * quietHours(guild, choice) - 6 * choice - 3 * quietHours(other, others);
     }
 
-    /** Those of the next HOURS in which the GUILD has no SILENCE. */
-    private int quietBits(int guild, int choice) {
+    /** In how many of the next HOURS the GUILD has no SILENCE. */
+    private int quietHours(int guild, int choice) {
         walk.begin(town, book.state, guild);
         if (choice == 1) {
             walk.repent();
         }
-        int bits = 0;
+        int many = 0;
         for (int i = 0; i < HOURS_OF_A_GAME; i++) {
             if (!walk.passHour(town, town.wetOf(walk.hour))) {
-                bits |= 1 << i;
+                many++;
             }
         }
-        return bits;
+        return many;
     }
 
     private int draw(int n) {

@@ -54,14 +54,14 @@ public final class ChanceTest {
         // 0 is quiet in all hours, if it confesses, else in none; 1 is quiet but in the last one either way;
         // 2 can't confess and is always quiet; 3 is as 0; 4 is quiet in four hours, if it confesses, else in none.
         GrottoHours x = Texts.town("guild 1 86 50;guild 9 0 999;guild 0 0 0;guild 0 71 50;guild 9 62 50;");
-        // 0 gains 40 - 6 - 21 by it, else 0.
+        // 0 gains 40 - 6 - 21 by it, else 0 - 21.
         game(x, 0, 1, 1, 10);
         game(x, 1, 0, 1, 1);
         game(x, 2, 0, 1, 1);
         game(x, 1, 2, 1, 0);
-        // Each gains 40 - 6 alone, and 40 - 6 - 24 beside the other one: still more than 0.
+        // Each gains 40 - 6 by it, else 0, less 24 or nothing by the other one's choice.
         game(x, 0, 3, 1, 11);
-        // 4 gains 20 - 6 - 12.
+        // 4 gains 20 - 6 - 24 by it, else 0 - 24.
         game(x, 4, 2, 1, 10);
         for (int wrong : new int[] {-1, 5, Integer.MAX_VALUE, Integer.MIN_VALUE}) {
             Check.noSuchElement("game(" + wrong + ", 0, 0)", () -> x.game(wrong, 0, 0));
@@ -86,12 +86,13 @@ public final class ChanceTest {
         // One quiet hour is worth 5, less than the 6 of a confession; two are worth 10.
         game(Texts.town("guild 9 99 99;guild 0 99 0;bound 58;"), 0, 1, 1, 0);
         game(Texts.town("guild 9 99 99;guild 0 99 0;bound 67;"), 0, 1, 1, 10);
-        // Beside one that is always quiet each is worth 2: three of them are worth what the confession costs.
-        game(Texts.town("guild 9 99 99;guild 0 0 0;bound 67;"), 0, 1, 1, 0);
-        game(Texts.town("guild 9 99 99;guild 0 0 0;bound 76;"), 0, 1, 2, 0);
-        game(Texts.town("guild 9 99 99;guild 0 0 0;bound 85;"), 0, 1, 1, 10);
-        // Two like ones with two quiet hours each: alone it gains 4, beside the other one it loses 2.
-        game(Texts.town("guild 9 99 99;guild 9 99 99;bound 67;"), 0, 1, 2, 1);
+        // So it is beside one that is always quiet: 24 are lost then either way, not 3 for each quiet hour of its own.
+        game(Texts.town("guild 9 99 99;guild 0 0 0;bound 58;"), 0, 1, 1, 0);
+        game(Texts.town("guild 9 99 99;guild 0 0 0;bound 67;"), 0, 1, 1, 10);
+        game(Texts.town("guild 9 99 99;guild 0 0 0;bound 76;"), 0, 1, 1, 10);
+        // Two like ones with two quiet hours each: each gains 4 more by it, whatever the other one does.
+        game(Texts.town("guild 9 99 99;guild 9 99 99;bound 67;"), 0, 1, 1, 11);
+        game(Texts.town("guild 9 99 99;guild 9 99 99;bound 58;"), 0, 1, 1, 0);
     }
 
     private static void years() {

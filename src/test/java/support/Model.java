@@ -1051,8 +1051,8 @@ final class Model {
             w.hourBy(w.wetNow());
             boolean isQuietA = !w.silentNow[a];
             boolean isQuietB = !w.silentNow[b];
-            gains[0] += isQuietA && isQuietB ? 5 - 3 : isQuietA ? 5 : 0;
-            gains[1] += isQuietA && isQuietB ? 5 - 3 : isQuietB ? 5 : 0;
+            gains[0] += (isQuietA ? 5 : 0) - (isQuietB ? 3 : 0);
+            gains[1] += (isQuietB ? 5 : 0) - (isQuietA ? 3 : 0);
         }
         return gains;
     }
