@@ -279,8 +279,8 @@ public final class GrottoHours {
         needGuild(guild);
         walk.begin(town, book.state, guild);
         for (int k = 1; k <= MOST_HOURS_AHEAD; k++) {
-            walk.passHours(town, 1);
-            if (walk.silences > book.state.silences[guild]) {
+            // Not by the count: that stays at 999, while SILENCES come all the same.
+            if (walk.passHour(town, town.wetOf(walk.hour))) {
                 return k;
             }
         }

@@ -5,6 +5,7 @@ public final class AheadTest {
         thenAtTheEnd();
         dripping();
         first();
+        firstAt999Silences();
         dismissed();
         most();
         hushAndChorus();
@@ -42,11 +43,16 @@ public final class AheadTest {
         Check.noSuchElement("then(0, 1, 4)", () -> x.then(0, 1, 4));
     }
 
-    private static void thenAtTheEnd() {
-        GrottoHours x = Texts.town("guild 1 50 0;bound 1;");
+    private static GrottoHours townInHour980(String text) {
+        GrottoHours x = Texts.town(text);
         for (int i = 0; i < 49; i++) {
             x.hours(20);
         }
+        return x;
+    }
+
+    private static void thenAtTheEnd() {
+        GrottoHours x = townInHour980("guild 1 50 0;bound 1;");
         x.hours(19);
         Check.same("999 silences", 999, x.guild(0, 3));
         Check.same("999 at most", 999, x.then(0, 60, 2));
@@ -85,6 +91,27 @@ public final class AheadTest {
         Check.same("first(1) later", 56, x.first(1));
         Check.noSuchElement("first(5)", () -> x.first(5));
         Check.noSuchElement("first(-1)", () -> x.first(-1));
+    }
+
+    private static void firstAt999Silences() {
+        // Guild 0 is silent in each hour; 1 always but for what it confesses; 2 never.
+        GrottoHours x = townInHour980("guild 0 99 0;guild 1 99 0;guild 0 70 0;");
+        x.hours(18);
+        Check.same("998 silences", 998, x.guild(0, 3));
+        Check.same("first(0) with 998", 1, x.first(0));
+        x.hours(1);
+        Check.same("999 silences", 999, x.guild(0, 3));
+        Check.same("first(0) with 999", 1, x.first(0));
+        Check.same("first(1) with 999", 1, x.first(1));
+        Check.same("first(2) in hour 999", -1, x.first(2));
+        x.give(1, 100);
+        Check.same("confess(1)", 49, x.confess(1));
+        // 49 and 22 is 71, more than 70.
+        Check.same("first(1) with 999, confessed", 22, x.first(1));
+        x.give(0, 100);
+        x.confess(0);
+        Check.same("first(0) with 999, confessed", -1, x.first(0));
+        Check.same("none are added to 999", 999, x.then(1, 60, 2));
     }
 
     private static void dismissed() {

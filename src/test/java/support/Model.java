@@ -721,7 +721,7 @@ final class Model {
             return NSE;
         }
         for (int k = 1; k <= 60; k++) {
-            if (all.w.after(k).silences[guild] > all.w.silences[guild]) {
+            if (all.w.after(k).silentNow[guild]) {
                 return k;
             }
         }
