@@ -493,13 +493,17 @@ public final class GrottoHours {
         int likely = 0;
         for (int dryBits = 0; dryBits < 1 << hours; dryBits++) {
             int weight = 1;
+            boolean isSilent = false;
             walk.begin(town, book.state, guild);
             for (int i = 0; i < hours; i++) {
                 boolean isDry = isOneOf(dryBits, i);
                 weight *= isDry ? tenths : 10 - tenths;
-                walk.passHour(town, isDry ? 0 : MOST_WET);
+                // As in first: not by the count, which stays at 999.
+                if (walk.passHour(town, isDry ? 0 : MOST_WET)) {
+                    isSilent = true;
+                }
             }
-            if (walk.silences > book.state.silences[guild]) {
+            if (isSilent) {
                 likely += weight;
             }
         }

@@ -3,7 +3,9 @@ import java.util.Random;
 /** Random runs of calls, each answer compared with that of the plain model. */
 public final class ModelTest {
     private static final int RUNS = 400;
-    private static final int CALLS = 120;
+    private static final int CALLS = 200;
+    // An object is used for at most 512 calls; a kind of call makes some 90 of them at most.
+    private static final int MOST_CALLS_OF_AN_OBJECT = 512 - 90;
     private static final int TEXTS = 40000;
 
     public static void main(String[] args) {
@@ -32,6 +34,7 @@ public final class ModelTest {
     private final Random random;
     private final GrottoHours x = new GrottoHours();
     private final Model m = new Model();
+    private int calls = 0;
 
     private ModelTest(int run) {
         this.run = run;
@@ -56,6 +59,7 @@ public final class ModelTest {
     }
 
     private void compare(String call, long want, Check.Call got) {
+        calls++;
         Check.same("run " + run + ": " + call, want, got);
     }
 
@@ -72,7 +76,7 @@ public final class ModelTest {
         if (text.length() <= 700) {
             port(text);
         }
-        for (int i = 0; i < CALLS; i++) {
+        for (int i = 0; i < CALLS && calls < MOST_CALLS_OF_AN_OBJECT; i++) {
             int kind = random.nextInt(200);
             if (kind == 0) {
                 port(texts.any());
@@ -87,7 +91,7 @@ public final class ModelTest {
             } else {
                 chance();
             }
-            if (i % 10 == 9) {
+            if (i % 20 == 19) {
                 allFacts();
             }
         }

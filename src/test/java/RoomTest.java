@@ -2,7 +2,7 @@ import java.lang.management.ManagementFactory;
 
 /** A run's calls make next to nothing: all rows are made with the object. */
 public final class RoomTest {
-    private static final int CALLS = 512;
+    private static final int CALLS = 448;
     private static final long MOST_BYTES_OF_AN_OBJECT = 80_000;
     private static final long MOST_BYTES_OF_CALLS = 20_000;
 

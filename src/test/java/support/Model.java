@@ -1013,15 +1013,16 @@ final class Model {
         return what == 0 ? best : bestMany;
     }
 
-    int likely(World w, int guild, int hours, int tenths) {
+    int likely(World w, int guild, int hours, int tenths, boolean isSilent) {
         if (hours == 0) {
-            return w.silences[guild] > all.w.silences[guild] ? 1 : 0;
+            return isSilent ? 1 : 0;
         }
         World dry = w.copy();
         dry.hourBy(0);
         World wet = w.copy();
         wet.hourBy(9);
-        return tenths * likely(dry, guild, hours - 1, tenths) + (10 - tenths) * likely(wet, guild, hours - 1, tenths);
+        return tenths * likely(dry, guild, hours - 1, tenths, isSilent || dry.silentNow[guild])
+            + (10 - tenths) * likely(wet, guild, hours - 1, tenths, isSilent || wet.silentNow[guild]);
     }
 
     long drought(int guild, int hours, int tenths) {
@@ -1031,7 +1032,7 @@ final class Model {
         if (not(hours, 1, 5) || not(tenths, 0, 10)) {
             return IAE;
         }
-        return likely(all.w, guild, hours, tenths);
+        return likely(all.w, guild, hours, tenths, false);
     }
 
     /** What both gain, if they choose so; null where one can't. */
