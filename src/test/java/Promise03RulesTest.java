@@ -132,6 +132,23 @@ public final class Promise03RulesTest {
         gives("greed", 5);
     }
 
+    static void promise03ValuesOfTheGrottoItHas() {
+        // The last of eight, and the second, whatever GREED and SILENCES are.
+        String eight = "grotto 1 0 1;grotto 2 0 2;grotto 3 0 3;grotto 4 0 4;grotto 5 0 5;grotto 6 0 6;grotto 7 0 7;grotto 12 0 20;";
+        for (String rule : new String[] {"drip", "price"}) {
+            GrottoHours x = Texts.town(eight + "guild 9 99 999 hires 7;guild 9 99 999 hires 1;costs " + rule + ";prays 0;");
+            Check.same(rule + " of the last", rule.equals("drip") ? 12 : 20, x.guild(0, 5));
+            Check.same(rule + " of the second", 2, x.guild(1, 5));
+            x.hours(12);
+            Check.same("twelve silences", 12, x.guild(0, 3));
+            Check.same(rule + " of the last", rule.equals("drip") ? 12 : 20, x.guild(0, 5));
+            Check.same(rule + " of the second", 2, x.guild(1, 5));
+            GrottoHours y = Texts.town(eight + "guild 0 90 0 hires 7;guild 0 90 0 hires 1;costs 0;prays " + rule + ";");
+            Check.same(rule + " of the last", rule.equals("drip") ? 78 : 70, y.then(0, 1, 0));
+            Check.same(rule + " of the second", 88, y.then(1, 1, 0));
+        }
+    }
+
     static void promise03FromTheLeft() {
         gives("20-3-4", 13);
         gives("20-3+4", 21);
@@ -188,6 +205,9 @@ public final class Promise03RulesTest {
         gives("3=3", 1);
         gives("3=4", 0);
         gives("(2<3)+(3=3)+5", 7);
+        gives("(3<3)+5", 5);
+        gives("(4<3)+5", 5);
+        gives("(3=4)+5", 5);
         gives("1+1<3", 1);
         gives("2<1+1", 0);
         gives("2*3=3+3", 1);
@@ -207,6 +227,11 @@ public final class Promise03RulesTest {
         gives("0 or 9", 1);
         gives("0 or 0", 0);
         gives("(0-1)or 0", 1);
+        gives("(0 or 0)+5", 5);
+        gives("(0 and 1)+5", 5);
+        gives("(1 and 0)+5", 5);
+        gives("(0 and 0)+5", 5);
+        gives("(not 1)+5", 5);
         gives("(7 and 8)*9", 9);
         gives("(3 or 4)*9", 9);
     }

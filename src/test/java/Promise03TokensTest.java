@@ -94,6 +94,33 @@ public final class Promise03TokensTest {
         Texts.fault("prays " + "a".repeat(690) + ";", 3, 6);
     }
 
+    /** The word with one letter changed is another word. */
+    private static void letterByLetter(String word, String ahead, String behind, int kind) {
+        for (int i = 0; i < word.length(); i++) {
+            char other = word.charAt(i) == 'z' ? 'a' : (char) (word.charAt(i) + 1);
+            String text = ahead + word.substring(0, i) + other + word.substring(i + 1) + behind;
+            Texts.fault(text, kind, ahead.length());
+        }
+        Texts.fault(ahead + word + behind, 0, -1);
+    }
+
+    static void promise03EachLetterOfAWordCounts() {
+        letterByLetter("grotto", "", " 1 0 0;", 1);
+        letterByLetter("hollow", "", " 1 0 0;", 1);
+        letterByLetter("guild", "", " 1 0 0;", 1);
+        letterByLetter("wet", "", " 1;", 1);
+        letterByLetter("bound", "", " 1;", 1);
+        letterByLetter("prays", "", " 1;", 1);
+        letterByLetter("costs", "", " 1;", 1);
+        letterByLetter("hires", "grotto 1 0 0;guild 1 1 1 ", " 0;", 1);
+        letterByLetter("or", "prays 1 ", " 1;", 1);
+        letterByLetter("and", "prays 1 ", " 1;", 1);
+        letterByLetter("not", "prays ", " 1;", 3);
+        for (String value : new String[] {"sin", "purse", "drip", "price", "wet", "hour", "greed"}) {
+            letterByLetter(value, "costs 1+", ";", 3);
+        }
+    }
+
     static void promise03CapitalsAreNone() {
         Texts.fault("Grotto 1 0 0;", 1, 0);
         Texts.fault("gRotto 1 0 0;", 1, 0);

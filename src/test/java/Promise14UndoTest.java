@@ -55,6 +55,43 @@ public final class Promise14UndoTest {
         Check.same("hired again", 0, x.guild(0, 4));
     }
 
+    static void promise14EachGuildsSilencesAreItsOwn() {
+        // One silence, one in each hour, none.
+        GrottoHours x = Texts.town("grotto 1 0 0;guild 0 80 0 hires 0;guild 0 71 0;guild 0 0 0;");
+        x.hours(3);
+        x.hours(2);
+        int[] want = {1, 5, 0};
+        int[] undone = {1, 3, 0};
+        for (int guild = 0; guild < 3; guild++) {
+            Check.same("silences of " + guild, want[guild], x.guild(guild, 3));
+        }
+        x.undo();
+        for (int guild = 0; guild < 3; guild++) {
+            Check.same("silences of " + guild + ", undone", undone[guild], x.guild(guild, 3));
+        }
+    }
+
+    static void promise14AllSixGuilds() {
+        StringBuilder text = new StringBuilder(Edges.EIGHT_GROTTOES);
+        for (int i = 0; i < 6; i++) {
+            text.append("guild ").append(i + 1).append(" ").append(66 + i).append(" ").append(100 + i).append(" hires ").append(i + 2).append(";");
+        }
+        GrottoHours x = Texts.town(text.append("costs 40;").toString());
+        x.hours(2);
+        Facts before = Facts.of(x);
+        x.hours(20);
+        Check.same("all are dismissed", 0, x.count(5));
+        Check.same("undo()", 1, x.undo());
+        before.areSo("undone", x);
+        Check.same("undo()", 0, x.undo());
+        for (int guild = 0; guild < 6; guild++) {
+            Check.same("sin at first", 66 + guild, x.guild(guild, 1));
+            Check.same("purse at first", 100 + guild, x.guild(guild, 2));
+            Check.same("no silences at first", 0, x.guild(guild, 3));
+            Check.same("hired at first", guild + 2, x.guild(guild, 4));
+        }
+    }
+
     static void promise14TheLastOneFirst() {
         GrottoHours x = Texts.town("grotto 1 0 0;guild 0 50 100;");
         x.give(0, 7);

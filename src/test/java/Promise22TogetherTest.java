@@ -54,6 +54,11 @@ public final class Promise22TogetherTest {
         Check.same("all", -1, x.together(255));
         x.hours(1);
         Check.same("even and odd from hour 1", -1, x.together(3));
+        // Whatever is told behind two that are never together.
+        GrottoHours y = Texts.town("grotto 2 0 0;grotto 2 1 0;grotto 3 0 0;grotto 5 4 0;");
+        Check.same("and one of 3", -1, y.together(7));
+        Check.same("and one of 5", -1, y.together(11));
+        Check.same("and both", -1, y.together(15));
     }
 
     static void promise22WereItWetAndNoneDrained() {

@@ -72,6 +72,17 @@ public final class Promise27HasTest {
         Check.same("has(1)", -1, x.has(1));
     }
 
+    static void promise27NothingOfAnEarlierTown() {
+        // There guild 1 could have grotto 0 alone, so that guild 0 had 1.
+        GrottoHours x = Texts.town("grotto 1 0 0;grotto 1 0 20;guild 0 0 200;guild 0 0 0;");
+        Check.same("has(0) ahead", 1, x.has(0));
+        Check.same("has(1) ahead", 0, x.has(1));
+        Check.same("port", 0, Texts.port(x, "grotto 1 0 3;grotto 1 0 3;guild 0 0 200;"));
+        Check.same("has(0)", 0, x.has(0));
+        Check.same("shared(0)", 1, x.shared(0));
+        Check.same("shared(1)", 3, x.shared(1));
+    }
+
     /** Every way to share, tried one by one: the first of the best. */
     static void promise27AgainstAllWays() {
         java.util.Random random = new java.util.Random(27);

@@ -114,5 +114,25 @@ public final class Promise28ToGiveTest {
         // 40 and more pray nothing away: 70 and 1 is a silence.
         toGive("grotto 1 0 10;guild 1 70 0 hires 0;prays (purse<40)*99;", 4, 28);
         toGive("grotto 1 0 10;guild 1 70 0 hires 0;prays (39<purse)*99;", 4, 40);
+        // 50 is prayed for and lasts five hours; 56 to 89 are halved by a silence, and don't last; 90 does.
+        toGive("grotto 1 0 10;guild 0 80 0 hires 0;prays (purse<56)*99;", 5, 50);
+    }
+
+    static void promise28NoMoreThan999IsTried() {
+        // Who is prayed for pays nothing, all others pay 50 for each hour.
+        String text = "grotto 1 0 0;guild 0 80 0 hires 0;costs (0<sin)*50;prays ";
+        toGive(text + "(998<purse)*99;", 60, 999);
+        toGive(text + "(999<purse)*99;", 60, -1);
+        toGive(text + "(purse<0)*99;", 60, -1);
+        toGive(text + "(purse<1)*99;", 60, 0);
+    }
+
+    static void promise28ByTheWetOfEachHour() {
+        String text = "wet 3 0 8;grotto 1 0 0;guild 0 0 0 hires 0;costs wet;";
+        toGive(text, 1, 3);
+        toGive(text, 2, 3);
+        toGive(text, 3, 11);
+        toGive(text, 60, 220);
+        Check.same("from hour 2", 11, Edges.townInHour(2, text.replace("0 0 0 hires", "0 0 99 hires")).toGive(0, 2));
     }
 }

@@ -72,6 +72,26 @@ public final class Promise29ConfessingTest {
         Check.same("49 instead of 0", -49, z.confessing(0, 1));
     }
 
+    static void promise29JustFiftyAreMissed() {
+        // It must pay 20 in the first hour to be prayed for in the second: 70 less 50 are just enough, 69 are not.
+        String town = "grotto 1 0 20;guild 0 80 PURSE hires 0;prays (hour=1)*99;";
+        Check.same("with 70", 0, Texts.town(town.replace("PURSE", "70")).confessing(0, 2));
+        Check.same("with 69", -40, Texts.town(town.replace("PURSE", "69")).confessing(0, 2));
+        // It must have no more than 20 then: 70 are just few enough, 71 are not.
+        String other = "grotto 1 0 0;guild 0 80 PURSE hires 0;prays (purse<21)*99;";
+        Check.same("with 70", 80, Texts.town(other.replace("PURSE", "70")).confessing(0, 1));
+        Check.same("with 71", 40, Texts.town(other.replace("PURSE", "71")).confessing(0, 1));
+    }
+
+    static void promise29ByTheWetOfEachHour() {
+        // Hours 1 and 3 are dry: half of 80 is 0 behind four prayers of 10, 80 is 40.
+        GrottoHours x = Texts.town("wet 1 0;grotto 1 0 0;guild 0 80 50 hires 0;bound 99;prays 10;");
+        int[] want = {40, 40, 40, 40, 40, 40, 40, 40, 40, 30, 30};
+        for (int i = 0; i < want.length; i++) {
+            Check.same("behind " + i, want[i], x.confessing(0, i));
+        }
+    }
+
     static void promise29ChangesNothing() {
         GrottoHours x = Texts.town("grotto 1 0 9;guild 9 65 90 hires 0;");
         x.hours(1);

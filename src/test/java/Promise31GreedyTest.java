@@ -138,6 +138,19 @@ public final class Promise31GreedyTest {
         greedy(z, "by 3 it can't pay: 23, 26", 1, 3, 0);
     }
 
+    static void promise31ByTheWetOfEachHour() {
+        // Hours 1 and 2 are dry: by greed 3 it has 48, 51, 54, 52.
+        GrottoHours x = Texts.town("wet 1 0 0;grotto 1 0 0;guild 0 50 0 hires 0;");
+        x.see(0, 3, 54);
+        greedy(x, "behind three", 1, 3, 0);
+        x.see(0, 4, 52);
+        greedy(x, "behind four", 1, 3, 0);
+        x.see(0, 1, 48);
+        greedy(x, "behind one", 1, 3, 0);
+        x.see(0, 2, 51);
+        greedy(x, "behind two", 1, 3, 0);
+    }
+
     static void promise31ChangesNothing() {
         GrottoHours x = Texts.town("grotto 1 0 9;guild 9 65 90 hires 0;");
         x.hours(1);

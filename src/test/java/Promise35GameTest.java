@@ -79,9 +79,27 @@ public final class Promise35GameTest {
     }
 
     static void promise35ThePurseThatIsMissed() {
-        // It can't pay for its grotto any more, if it confesses: 40 and 9 for each hour, 71 behind four;
-        // without it 20 are paid of 77, and each hour prays 30 away.
-        game("grotto 1 0 20;guild 9 80 50 hires 0;guild 0 0 0;prays 30;costs 50;", 0);
+        // 50 are paid in hour 0 alone, and 60 are prayed away in hour 1. Who confesses can't pay, and has no prayer:
+        // 49, 58, 67, then silent: three quiet hours. Else 89, then 38, 47, 56, 65, then silent: four.
+        game("grotto 1 0 0;guild 9 80 50 hires 0;guild 0 0 0;prays (hour=1)*60;costs (hour=0)*50;", 0);
+    }
+
+    static void promise35JustFiftyAreMissed() {
+        // Who has 20 or less is prayed for. With 70 that is at once, if it confesses, else behind two silences;
+        // with 71 behind one, if it confesses: one quiet hour more is worth less than the 6.
+        String town = "grotto 1 0 0;guild 0 99 PURSE hires 0;guild 0 0 0;bound 1;prays (purse<21)*99;";
+        game(town.replace("PURSE", "70"), 10);
+        game(town.replace("PURSE", "71"), 0);
+    }
+
+    static void promise35ByTheWetOfEachHour() {
+        // 10 less and 9 more in a wet hour, 9 more in a dry one: from 70 on it falls until a dry one makes it silent.
+        String town = "grotto 1 0 0;guild 9 70 50 hires 0;guild 0 0 0;prays 10;wet ";
+        game(town + "9 9 9 9 9 9 9 9;", 0);
+        game(town + "9 9 9 0;", 10);
+        // Two silences, in the 7th and the 8th hour; one, in the 8th.
+        game(town + "9 9 9 9 9 9 0;", 10);
+        game(town + "9 9 9 9 9 9 9 0;", 0);
     }
 
     static void promise35AnotherWhatComesFirst() {

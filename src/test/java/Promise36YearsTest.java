@@ -85,18 +85,21 @@ public final class Promise36YearsTest {
     }
 
     static void promise36Event0Hires() {
-        // Guild 0 has grotto 0 for 2; grotto 1 costs 3. Purses tell who has what.
+        // Guild 0 has grotto 0 for 2; the others cost 3, 5 and 9. Purses tell who has what.
+        int[] prices = {2, 3, 5, 9};
         int many = 0;
         for (int seed = 0; seed < 400; seed++) {
             int second = next(next(seed));
             int third = next(second);
             if (draw(next(seed), 7) == 0) {
                 many++;
-                GrottoHours x = Texts.town("grotto 1 0 2;grotto 1 0 3;guild 0 0 100 hires 0;guild 0 0 500;");
-                boolean isFree = draw(third, 2) == 1;
-                boolean isSecond = draw(second, 2) == 1;
-                Check.same("hired by seed " + seed, isFree && isSecond ? 2 : 1, x.years(seed, 1, 2));
-                Check.same("purses by seed " + seed, 600 - (!isFree ? 2 : isSecond ? 5 : 3), x.years(seed, 1, 1));
+                GrottoHours x = Texts.town("grotto 1 0 2;grotto 1 0 3;grotto 1 0 5;grotto 1 0 9;"
+                    + "guild 0 0 100 hires 0;guild 0 0 500;guild 0 0 300;");
+                int grotto = draw(third, 4);
+                boolean isOther = draw(second, 3) > 0;
+                int cost = grotto == 0 ? 2 : isOther ? 2 + prices[grotto] : prices[grotto];
+                Check.same("hired by seed " + seed, grotto > 0 && isOther ? 2 : 1, x.years(seed, 1, 2));
+                Check.same("purses by seed " + seed, 900 - cost, x.years(seed, 1, 1));
             }
         }
         Check.isTrue("often enough", many > 20);
@@ -110,9 +113,9 @@ public final class Promise36YearsTest {
             int third = next(second);
             if (draw(next(seed), 7) == 1) {
                 many++;
-                GrottoHours x = Texts.town("grotto 1 0 0;grotto 1 0 0;guild 0 75 0 hires 1;");
+                GrottoHours x = Texts.town("grotto 1 0 0;grotto 1 0 0;grotto 1 0 0;guild 0 75 0 hires 1;");
                 boolean isDry = draw(third, 4) == 0;
-                boolean isIts = draw(second, 2) == 1;
+                boolean isIts = draw(second, 3) == 1;
                 Check.same("drained by seed " + seed, isDry || isIts ? 1 : 0, x.years(seed, 1, 0));
                 x.drain(1, true);
                 Check.same("flows by seed " + seed, isDry || !isIts ? 1 : 0, x.years(seed, 1, 0));
@@ -126,11 +129,11 @@ public final class Promise36YearsTest {
         for (int seed = 0; seed < 400; seed++) {
             if (draw(next(seed), 7) == 2) {
                 many++;
-                boolean isSecond = draw(next(next(seed)), 2) == 1;
+                int guild = draw(next(next(seed)), 3);
                 Check.same("20 by seed " + seed, 119 + 100 + 20,
                     Texts.town("grotto 1 0 0;guild 0 0 119;guild 0 0 100;").years(seed, 1, 1));
-                Check.same("999 at most by seed " + seed, 980 + 979 + (isSecond ? 20 : 19),
-                    Texts.town("grotto 1 0 0;guild 0 0 980;guild 0 0 979;").years(seed, 1, 1));
+                Check.same("999 at most by seed " + seed, 980 + 979 + 990 + new int[] {19, 20, 9}[guild],
+                    Texts.town("grotto 1 0 0;guild 0 0 980;guild 0 0 979;guild 0 0 990;").years(seed, 1, 1));
             }
         }
         Check.isTrue("often enough", many > 20);
