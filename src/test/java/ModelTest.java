@@ -76,6 +76,9 @@ public final class ModelTest {
         if (text.length() <= 700) {
             port(text);
         }
+        if (run % 8 == 0) {
+            goToALateHour();
+        }
         for (int i = 0; i < CALLS && calls < MOST_CALLS_OF_AN_OBJECT; i++) {
             int kind = random.nextInt(200);
             if (kind == 0) {
@@ -95,6 +98,14 @@ public final class ModelTest {
                 allFacts();
             }
         }
+    }
+
+    /** Some way behind HOUR 900, where hours are refused by and by, and forecasts go past 999. */
+    private void goToALateHour() {
+        for (int i = random.nextInt(5); i < 50; i++) {
+            compare("hours(20)", m.hours(20), () -> x.hours(20));
+        }
+        compare("hours(19)", m.hours(19), () -> x.hours(19));
     }
 
     private void allFacts() {

@@ -5,8 +5,8 @@ public final class Promise03LinesTest {
     }
 
     private static final String[] SOME_TOKENS = {"grotto", "hollow", "guild", "hires", "wet", "bound", "prays", "costs",
-        "or", "and", "not", "sin", "purse", "drip", "price", "hour", "greed", "word", "7", "0", "9999", "12345", ";", "(", ")",
-        "+", "-", "*", "/", "<", "=", "#", "A", "\t"};
+        "or", "and", "not", "sin", "purse", "drip", "price", "hour", "greed", "word", "7", "0", "9999", "12345",
+        ";", "(", ")", "+", "-", "*", "/", "<", "=", "#", "A", "\t"};
 
     /** Each TOKEN but those that can stand behind this is FAULT 1, at its first byte. */
     private static void othersCantStand(String behind, String... can) {

@@ -197,7 +197,8 @@ public final class Promise03PortTest {
     static void promise03NothingOfAnEarlierTownStays() {
         GrottoHours x = new GrottoHours();
         for (int i = 0; i < 3; i++) {
-            Texts.port(x, Edges.EIGHT_GROTTOES + "guild 9 99 999 hires 0;guild 9 99 999 hires 7;wet 1 0;bound 1;prays 3;costs 4;");
+            Texts.port(x, Edges.EIGHT_GROTTOES + "guild 9 99 999 hires 0;guild 9 99 999 hires 7;"
+                + "wet 1 0;bound 1;prays 3;costs 4;");
             x.hours(20);
             x.drain(7, true);
             Check.same("port", 0, Texts.port(x, "grotto 1 0 1;guild 1 10 100;"));
@@ -212,7 +213,8 @@ public final class Promise03PortTest {
     }
 
     static void promise03TextOf700Bytes() {
-        String text = Edges.EIGHT_GROTTOES + "guild 9 99 999 hires 7;" + "guild 0 0 0;".repeat(5) + "prays 1" + "+1".repeat(240);
+        String text = Edges.EIGHT_GROTTOES + "guild 9 99 999 hires 7;" + "guild 0 0 0;".repeat(5)
+            + "prays 1" + "+1".repeat(240);
         text = text + " ".repeat(691 - text.length()) + ";bound 9;";
         Check.same("its length", 700, text.length());
         GrottoHours x = Texts.town(text);

@@ -10,7 +10,8 @@ public final class Promise03RulesTest {
 
     static void promise03WhereAPartMustStand() {
         for (String rule : new String[] {"prays ", "costs "}) {
-            for (String ahead : new String[] {"", "(", "((((( ", "1 or ", "1 and ", "not ", "1<", "1=", "1+", "1-", "1*", "1/", "(1)*"}) {
+            for (String ahead : new String[] {"", "(", "((((( ", "1 or ", "1 and ", "not ", "1<", "1=", "1+", "1-", "1*",
+                "1/", "(1)*"}) {
                 for (String sign : SIGNS) {
                     Texts.fault(rule + ahead + sign, 1, rule.length() + ahead.length());
                 }
@@ -35,7 +36,8 @@ public final class Promise03RulesTest {
     }
 
     static void promise03BehindAPart() {
-        String[] all = {"grotto", "hires", "wet", "bound", "prays", "not", "sin", "greed", "word", "7", "12345", "(", "#", "A"};
+        String[] all = {"grotto", "hires", "wet", "bound", "prays", "not", "sin", "greed", "word", "7", "12345", "(",
+            "#", "A"};
         for (String ahead : new String[] {"prays 1 ", "costs sin ", "prays (1) ", "prays 1+2 ", "prays 1*2 ", "prays not 1 ",
             "prays 1<2 ", "prays 1 and 2 ", "prays 1 or 2 "}) {
             for (String token : all) {
@@ -134,7 +136,8 @@ public final class Promise03RulesTest {
 
     static void promise03ValuesOfTheGrottoItHas() {
         // The last of eight, and the second, whatever GREED and SILENCES are.
-        String eight = "grotto 1 0 1;grotto 2 0 2;grotto 3 0 3;grotto 4 0 4;grotto 5 0 5;grotto 6 0 6;grotto 7 0 7;grotto 12 0 20;";
+        String eight = "grotto 1 0 1;grotto 2 0 2;grotto 3 0 3;grotto 4 0 4;grotto 5 0 5;"
+            + "grotto 6 0 6;grotto 7 0 7;grotto 12 0 20;";
         for (String rule : new String[] {"drip", "price"}) {
             GrottoHours x = Texts.town(eight + "guild 9 99 999 hires 7;guild 9 99 999 hires 1;costs " + rule + ";prays 0;");
             Check.same(rule + " of the last", rule.equals("drip") ? 12 : 20, x.guild(0, 5));

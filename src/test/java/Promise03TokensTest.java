@@ -19,9 +19,13 @@ public final class Promise03TokensTest {
 
     static void promise03BytesBetweenTokens() {
         for (int i = 0; i < 256; i++) {
-            boolean isBlank = i == 32 || i == 10;
-            if (i < '0' || i > '9') {
-                Texts.fault("bound 7" + sign(i) + ";", isBlank || i == ';' ? i == ';' ? 1 : 0 : 1, isBlank ? -1 : i == ';' ? 8 : 7);
+            String text = "bound 7" + sign(i) + ";";
+            if (i == 32 || i == 10) {
+                Texts.fault(text, 0, -1);
+            } else if (i == ';') {
+                Texts.fault(text, 1, 8);
+            } else if (i < '0' || i > '9') {
+                Texts.fault(text, 1, 7);
             }
         }
     }

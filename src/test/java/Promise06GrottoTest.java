@@ -47,7 +47,8 @@ public final class Promise06GrottoTest {
     }
 
     static void promise06WhoHasHiredIt() {
-        GrottoHours x = Texts.town(Edges.EIGHT_GROTTOES + "guild 0 0 0 hires 7;" + "guild 0 0 0;".repeat(4) + "guild 0 0 0 hires 0;");
+        GrottoHours x = Texts.town(Edges.EIGHT_GROTTOES + "guild 0 0 0 hires 7;" + "guild 0 0 0;".repeat(4)
+            + "guild 0 0 0 hires 0;");
         Check.same("the last guild", 5, x.grotto(0, 5));
         Check.same("the first guild", 0, x.grotto(7, 5));
         Check.same("nobody", -1, x.grotto(1, 5));

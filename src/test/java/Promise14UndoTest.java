@@ -74,7 +74,7 @@ public final class Promise14UndoTest {
     static void promise14AllSixGuilds() {
         StringBuilder text = new StringBuilder(Edges.EIGHT_GROTTOES);
         for (int i = 0; i < 6; i++) {
-            text.append("guild ").append(i + 1).append(" ").append(66 + i).append(" ").append(100 + i).append(" hires ").append(i + 2).append(";");
+            text.append(String.format("guild %d %d %d hires %d;", i + 1, 66 + i, 100 + i, i + 2));
         }
         GrottoHours x = Texts.town(text.append("costs 40;").toString());
         x.hours(2);

@@ -50,7 +50,8 @@ public final class Promise17FirstTest {
         // 5 less and 3 more in a wet hour, 3 more in a dry one: 67, 65, 68, 71; and 72, if hour 0 is dry.
         Check.same("dry in hours 2 and 3", 4, Texts.town("wet 9 1 0 0;grotto 1 0 0;guild 3 69 0 hires 0;").first(0));
         Check.same("dry in hour 0 alone", 1, Texts.town("wet 0 9 9 9;grotto 1 0 0;guild 3 69 0 hires 0;").first(0));
-        Check.same("by what the rule sees", 3, Texts.town("wet 7 7 0;grotto 1 0 0;guild 7 64 0 hires 0;prays wet;").first(0));
+        Check.same("by what the rule sees", 3,
+            Texts.town("wet 7 7 0;grotto 1 0 0;guild 7 64 0 hires 0;prays wet;").first(0));
         GrottoHours x = Texts.town("wet 9 1 0 0;grotto 1 0 0;guild 3 67 0 hires 0;");
         Check.same("dry in hours 2, 3, 6 and 7", 8, x.first(0));
         x.drain(0, true);

@@ -31,7 +31,8 @@ public final class Promise22TogetherTest {
     }
 
     static void promise22TheLatestThereIs() {
-        String text = "grotto 11 1 0;grotto 12 1 0;grotto 7 1 0;grotto 5 1 0;grotto 9 1 0;grotto 8 1 0;grotto 10 1 0;grotto 6 1 0;";
+        String text = "grotto 11 1 0;grotto 12 1 0;grotto 7 1 0;grotto 5 1 0;grotto 9 1 0;grotto 8 1 0;"
+            + "grotto 10 1 0;grotto 6 1 0;";
         GrottoHours x = Texts.town(text);
         // The first hour h with h + 1 some times all of them is 27719.
         Check.same("together(255)", 27720, x.together(255));
@@ -45,7 +46,8 @@ public final class Promise22TogetherTest {
     }
 
     static void promise22NeverTogether() {
-        GrottoHours x = Texts.town("grotto 2 0 0;grotto 2 1 0;grotto 4 1 0;grotto 4 3 0;grotto 6 1 0;grotto 6 3 0;grotto 9 1 0;grotto 12 0 0;");
+        GrottoHours x = Texts.town("grotto 2 0 0;grotto 2 1 0;grotto 4 1 0;grotto 4 3 0;grotto 6 1 0;grotto 6 3 0;"
+            + "grotto 9 1 0;grotto 12 0 0;");
         Check.same("even and odd", -1, x.together(3));
         Check.same("4 by 1 and 3", -1, x.together(4 + 8));
         Check.same("6 by 1 and 3", -1, x.together(16 + 32));
