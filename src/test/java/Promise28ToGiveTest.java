@@ -22,6 +22,9 @@ public final class Promise28ToGiveTest {
         toGive("grotto 1 0 4;guild 1 0 9 hires 0;", 1, 1);
         toGive("grotto 1 0 0;guild 0 0 9 hires 0;costs 0-5;", 60, 0);
         toGive("grotto 1 0 0;guild 0 0 9 hires 0;costs purse;", 1, 0);
+        toGive("grotto 1 0 0;guild 1 0 9 hires 0;costs purse-purse;", 60, 0);
+        toGive("grotto 1 0 3;guild 1 0 9 hires 0;costs price+0*purse;", 60, 0);
+        toGive("grotto 1 0 4;guild 1 0 9 hires 0;costs price+0*purse;", 1, 1);
     }
 
     static void promise28NineHundredNinetyNineAreTheMost() {
